@@ -13,6 +13,8 @@ public final class BitLoom {
     private static final int WORK_BITS = -1 << FIELD_BITS;
     private static final int MOST_FIELDS = 6;
     private static final int MOST_WIDTH = 10;
+    private static final int LEAST_VALUE = -(1 << MOST_WIDTH - 1);
+    private static final int GREATEST_VALUE = (1 << MOST_WIDTH) - 1;
     private static final int MOST_CHARACTERS = 100;
     private static final int CHARACTERS_OF_A_LONG = 8;
     private static final int MOST_DECIMALS = 3;
@@ -200,7 +202,7 @@ public final class BitLoom {
     }
 
     private int greatest(int field, int taken) {
-        int found = Integer.MIN_VALUE;
+        int found = LEAST_VALUE;
         for (int word = 0; word < WORDS; word++) {
             if (Words.holds(taken, word)) {
                 found = Math.max(found, valueOf(field, word));
@@ -210,7 +212,7 @@ public final class BitLoom {
     }
 
     private int least(int field, int taken) {
-        int found = Integer.MAX_VALUE;
+        int found = GREATEST_VALUE;
         for (int word = 0; word < WORDS; word++) {
             if (Words.holds(taken, word)) {
                 found = Math.min(found, valueOf(field, word));

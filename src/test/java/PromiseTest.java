@@ -427,6 +427,7 @@ public final class PromiseTest {
             d.insert();
         }
         d.tell("set c = -512");
+        due("14 the least value", "-512", d.tell("max c"));
         due("14 the least sum", String.valueOf(-512 * 32), d.tell("sum c"));
     }
 
@@ -478,7 +479,7 @@ public final class PromiseTest {
             for (int word = 0; word < 4; word++) {
                 d.put(word, 'a', word + 1);
             }
-            d.search(1, 0, false);
+            d.search(0, 0, false);
             d.multi(WORK, -1);
             d.tell("where a > 1 " + action);
             due("14 responders after " + action, "1 2 3 ", d.responders());
@@ -511,6 +512,12 @@ public final class PromiseTest {
         d.text("t");
         due("14 a text that stayed, ended", "3", d.run());
         due("14 empty then", ARGUMENT, d.run());
+        Driver wide = new Driver();
+        wide.field('w', 0, 10, false);
+        wide.insert();
+        wide.put(0, 'w', 1023);
+        due("14 the greatest value", "1023", wide.tell("min w"));
+        due("14 of an unsigned field", "1", wide.tell("where w > 999 & -1 < w count"));
         Driver none = table(0);
         due("14 max of an empty table", ELEMENT, none.tell("max a"));
         due("14 count of an empty table", "0", none.tell("count"));
