@@ -429,6 +429,12 @@ public final class PromiseTest {
         d.tell("set c = -512");
         due("14 the least value", "-512", d.tell("max c"));
         due("14 the least sum", String.valueOf(-512 * 32), d.tell("sum c"));
+        Driver wide = new Driver();
+        wide.field('w', 0, 10, false);
+        wide.insert();
+        wide.put(0, 'w', 1023);
+        due("14 the greatest value", "1023", wide.tell("min w"));
+        due("14 of an unsigned field", "1", wide.tell("where w > 999 & -1 < w count"));
     }
 
     private static void runSet() {
@@ -512,12 +518,6 @@ public final class PromiseTest {
         d.text("t");
         due("14 a text that stayed, ended", "3", d.run());
         due("14 empty then", ARGUMENT, d.run());
-        Driver wide = new Driver();
-        wide.field('w', 0, 10, false);
-        wide.insert();
-        wide.put(0, 'w', 1023);
-        due("14 the greatest value", "1023", wide.tell("min w"));
-        due("14 of an unsigned field", "1", wide.tell("where w > 999 & -1 < w count"));
         Driver none = table(0);
         due("14 max of an empty table", ELEMENT, none.tell("max a"));
         due("14 count of an empty table", "0", none.tell("count"));
