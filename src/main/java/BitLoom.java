@@ -815,6 +815,20 @@ public final class BitLoom {
         }
 
         private void readAction() {
+            readVerb();
+            if (action == Action.SET) {
+                readChange(change);
+                hasSecondChange = tokens.isSign(',');
+                if (hasSecondChange) {
+                    tokens.advance();
+                    readChange(secondChange);
+                }
+            } else if (action != Action.COUNT) {
+                subject = readField();
+            }
+        }
+
+        private void readVerb() {
             int found = NONE;
             for (int i = 0; i < ACTIONS.length; i++) {
                 if (tokens.isWord(ACTIONS[i].word())) {
@@ -827,20 +841,6 @@ public final class BitLoom {
                 action = ACTIONS[found];
             }
             tokens.advance();
-            if (action == Action.SET) {
-                readChanges();
-            } else if (action != Action.COUNT) {
-                subject = readField();
-            }
-        }
-
-        private void readChanges() {
-            readChange(change);
-            hasSecondChange = tokens.isSign(',');
-            if (hasSecondChange) {
-                tokens.advance();
-                readChange(secondChange);
-            }
         }
 
         private void readChange(Change into) {

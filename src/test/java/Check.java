@@ -2,6 +2,12 @@ import java.util.Objects;
 
 /** What the project's tests share: comparing answers, and naming what a call throws. */
 final class Check {
+    static final String OK = "null";
+    static final String ARGUMENT = "IllegalArgumentException";
+    static final String STATE = "IllegalStateException";
+    static final String ELEMENT = "NoSuchElementException";
+    static final String INDEX = "IndexOutOfBoundsException";
+
     private static int looked = 0;
     private static int wrong = 0;
 

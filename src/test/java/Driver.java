@@ -1,81 +1,115 @@
 /** A BitLoom whose every answer is a string: what the call answers, "null" for void, or what it throws. */
 final class Driver {
-    final BitLoom loom = new BitLoom();
+    static final int WORK = 0xFF000000;
+    static final int MOST_CALLS = 512;
+
+    private final BitLoom loom = new BitLoom();
+    private int calls = 0;
+    private int words = 0;
+
+    /** Fields a (unsigned, 4 bits), b (signed, 5), c (signed, 10, up to bit 23); words 0 .. words - 1 in use. */
+    static Driver table(int words) {
+        Driver d = new Driver();
+        d.field('a', 0, 4, false);
+        d.field('b', 4, 5, true);
+        d.field('c', 14, 10, true);
+        for (int i = 0; i < words; i++) {
+            d.insert();
+        }
+        return d;
+    }
+
+    int calls() {
+        return calls;
+    }
+
+    /** What an object answers behind its last promised call is free, so no test may ask for it. */
+    private String outcome(Check.Call call) {
+        calls++;
+        if (calls > MOST_CALLS) {
+            Check.due("calls of one object", MOST_CALLS, calls);
+        }
+        return Check.outcome(call);
+    }
 
     String field(char name, int first, int width, boolean signed) {
-        return Check.outcome(() -> {
+        return outcome(() -> {
             loom.field(name, first, width, signed);
             return null;
         });
     }
 
     String insert() {
-        return Check.outcome(() -> loom.insert());
+        return outcome(() -> {
+            int word = loom.insert();
+            words = Math.max(words, word + 1);
+            return word;
+        });
     }
 
     String remove(int word) {
-        return Check.outcome(() -> {
+        return outcome(() -> {
             loom.remove(word);
             return null;
         });
     }
 
     String put(int word, char name, int v) {
-        return Check.outcome(() -> {
+        return outcome(() -> {
             loom.put(word, name, v);
             return null;
         });
     }
 
     String get(int word, char name) {
-        return Check.outcome(() -> loom.get(word, name));
+        return outcome(() -> loom.get(word, name));
     }
 
     String bit(int word, int k) {
-        return Check.outcome(() -> loom.bit(word, k));
+        return outcome(() -> loom.bit(word, k));
     }
 
     String search(int mask, int pattern, boolean among) {
-        return Check.outcome(() -> loom.search(mask, pattern, among));
+        return outcome(() -> loom.search(mask, pattern, among));
     }
 
     String multi(int mask, int pattern) {
-        return Check.outcome(() -> {
+        return outcome(() -> {
             loom.multi(mask, pattern);
             return null;
         });
     }
 
     String responds(int word) {
-        return Check.outcome(() -> loom.responds(word));
+        return outcome(() -> loom.responds(word));
     }
 
     String first() {
-        return Check.outcome(() -> loom.first());
+        return outcome(() -> loom.first());
     }
 
     String write(long characters) {
-        return Check.outcome(() -> loom.write(characters));
+        return outcome(() -> loom.write(characters));
     }
 
     String wipe() {
-        return Check.outcome(() -> loom.wipe());
+        return outcome(() -> loom.wipe());
     }
 
     String run() {
-        return Check.outcome(() -> loom.run());
+        return outcome(() -> loom.run());
     }
 
     String place() {
-        return Check.outcome(() -> loom.place());
+        return outcome(() -> loom.place());
     }
 
     String refused() {
-        return Check.outcome(() -> loom.refused());
+        return outcome(() -> loom.refused());
     }
 
     String listed(int i) {
-        return Check.outcome(() -> loom.listed(i));
+        return outcome(() -> loom.listed(i));
     }
 
     /** Writes a whole text, eight characters at a time. */
@@ -92,11 +126,12 @@ final class Driver {
         return run();
     }
 
-    /** The words that respond, such as "0 3 ". */
+    /** The words that respond, such as "0 3 ", of those that were ever in use and the next one. */
     String responders() {
         StringBuilder s = new StringBuilder();
-        for (int word = 0; word < 32; word++) {
-            s.append(loom.responds(word) ? word + " " : "");
+        for (int word = 0; word <= words && word < 32; word++) {
+            String responds = responds(word);
+            s.append(responds.equals("true") ? word + " " : responds.equals("false") ? "" : responds);
         }
         return s.toString();
     }
@@ -104,31 +139,26 @@ final class Driver {
     /** The words that the latest list listed, in their order. */
     String list() {
         StringBuilder s = new StringBuilder();
-        for (int i = 0; !listed(i).equals("IndexOutOfBoundsException"); i++) {
-            s.append(listed(i)).append(' ');
+        String word = listed(0);
+        for (int i = 1; !word.equals(Check.INDEX) && i <= 33; i++) {
+            s.append(word).append(' ');
+            word = listed(i);
         }
         return s.toString();
     }
 
     /** All bits of a word as one int. */
     int bits(int word) {
-        int bits = 0;
-        for (int k = 0; k < 32; k++) {
-            bits |= loom.bit(word, k) ? 1 << k : 0;
-        }
-        return bits;
+        return bits(word, 0, 31);
     }
 
-    /** All that the calls that change nothing can tell. */
-    String state() {
-        StringBuilder s = new StringBuilder(responders());
-        for (int word = 0; word < 32; word++) {
-            s.append('/').append(Integer.toHexString(bits(word)));
-            for (char name = 'a'; name <= 'z'; name++) {
-                s.append(' ').append(get(word, name));
-            }
+    /** Some bits of a word, the others as 0. */
+    int bits(int word, int from, int to) {
+        int bits = 0;
+        for (int k = from; k <= to; k++) {
+            bits |= bit(word, k).equals("true") ? 1 << k : 0;
         }
-        return s.append(refused()).append(' ').append(list()).toString();
+        return bits;
     }
 
     static long pack(String characters) {

@@ -177,10 +177,11 @@ final class Model {
         return answer;
     }
 
-    String respondersText() {
-        StringBuilder s = new StringBuilder();
-        responders.forEach(word -> s.append(word).append(' '));
-        return s.toString();
+    int listed(int i) {
+        if (i < 0 || i >= list.size()) {
+            throw new IndexOutOfBoundsException();
+        }
+        return list.get(i);
     }
 
     String listText() {

@@ -2,8 +2,10 @@ import java.util.Random;
 
 /** Long runs of random calls, each answer held against the model's. The seeds are fixed: every run is the same. */
 public final class ModelTest {
-    private static final int RUNS = 800;
-    private static final int CALLS = 200;
+    private static final int RUNS = 4000;
+
+    /** A step takes at most 23 calls and the last look at all at most 193, all together no more than an object has. */
+    private static final int CALLS_BEFORE_THE_LAST_STEP = 296;
 
     private final Random random;
     private final Driver driver = new Driver();
@@ -30,12 +32,10 @@ public final class ModelTest {
         for (int i = random.nextInt(33); i > 0; i--) {
             Check.due("insert", Check.outcome(model::insert), driver.insert());
         }
-        for (int i = 0; i < CALLS; i++) {
-            step("seed " + seed + " call " + i + " ");
+        while (driver.calls() < CALLS_BEFORE_THE_LAST_STEP) {
+            step("seed " + seed + " behind call " + driver.calls() + " ");
         }
-        for (int word = 0; word < 32; word++) {
-            Check.due("seed " + seed + " bits of " + word, model.bits[word], driver.bits(word));
-        }
+        compareAll("seed " + seed + " at the end ");
     }
 
     private void step(String at) {
@@ -68,17 +68,30 @@ public final class ModelTest {
             Check.due(at + "first", String.valueOf(model.first()), driver.first());
         } else {
             long characters = random.nextLong() & 0x7F7F7F7F7F7F7F7FL & (random.nextBoolean() ? 0xFFFFFF : -1);
-            Check.due(at + "write", model.write(characters), driver.loom.write(characters));
+            Check.due(at + "write", String.valueOf(model.write(characters)), driver.write(characters));
         }
         compare(at);
     }
 
     private void compare(String at) {
         int word = random.nextInt(32);
-        Check.due(at + "bits of " + word, model.bits[word], driver.bits(word));
-        Check.due(at + "responders", model.respondersText(), driver.responders());
+        int k = random.nextInt(3) == 0 ? 24 + random.nextInt(8) : random.nextInt(32);
+        int i = random.nextInt(model.list.size() + 2) - 1;
+        Check.due(at + "bit " + k + " of " + word, String.valueOf((model.bits[word] >>> k & 1) == 1), driver.bit(word, k));
+        Check.due(at + "responds " + word, String.valueOf(model.responders.contains(word)), driver.responds(word));
         Check.due(at + "place", String.valueOf(model.place), driver.place());
         Check.due(at + "refused", String.valueOf(model.refused), driver.refused());
+        Check.due(at + "listed " + i, Check.outcome(() -> model.listed(i)), driver.listed(i));
+    }
+
+    private void compareAll(String at) {
+        for (int word = 0; word < 32; word++) {
+            Check.due(at + "responds " + word, String.valueOf(model.responders.contains(word)), driver.responds(word));
+        }
+        for (int n = 0; n < 4; n++) {
+            int word = random.nextInt(32);
+            Check.due(at + "bits of " + word, model.bits[word], driver.bits(word));
+        }
         Check.due(at + "list", model.listText(), driver.list());
     }
 
@@ -98,7 +111,7 @@ public final class ModelTest {
         String text = spoil(text());
         for (int i = 0; i < text.length(); i += 8) {
             long packed = Driver.pack(text.substring(i, Math.min(i + 8, text.length())));
-            Check.due(at + "write", model.write(packed), driver.loom.write(packed));
+            Check.due(at + "write", String.valueOf(model.write(packed)), driver.write(packed));
         }
         String whole = model.text.toString();
         Check.due(at + "run |" + whole + "|", Check.outcome(model::run), driver.run());

@@ -1,11 +1,11 @@
 /** Each promise by itself: ordinary inputs, the edges that the document names, wrong inputs. */
 public final class PromiseTest {
-    private static final String OK = "null";
-    private static final String ARGUMENT = "IllegalArgumentException";
-    private static final String STATE = "IllegalStateException";
-    private static final String ELEMENT = "NoSuchElementException";
-    private static final String INDEX = "IndexOutOfBoundsException";
-    private static final int WORK = 0xFF000000;
+    private static final String OK = Check.OK;
+    private static final String ARGUMENT = Check.ARGUMENT;
+    private static final String STATE = Check.STATE;
+    private static final String ELEMENT = Check.ELEMENT;
+    private static final String INDEX = Check.INDEX;
+    private static final int WORK = Driver.WORK;
 
     public static void main(String[] args) {
         newObject();
@@ -40,22 +40,12 @@ public final class PromiseTest {
         Check.due(what, want, got);
     }
 
-    /** Fields a (unsigned, 4), b (signed, 5), c (signed, 10); words 0 .. words - 1 in use. */
-    private static Driver table(int words) {
-        Driver d = new Driver();
-        d.field('a', 0, 4, false);
-        d.field('b', 4, 5, true);
-        d.field('c', 14, 10, true);
-        for (int i = 0; i < words; i++) {
-            d.insert();
-        }
-        return d;
-    }
-
     private static void newObject() {
+        for (int word = 0; word < 32; word++) {
+            due("1 bits of " + word, 0, new Driver().bits(word));
+        }
         Driver d = new Driver();
         for (int word = 0; word < 32; word++) {
-            due("1 bits of " + word, 0, d.bits(word));
             due("1 free " + word, ELEMENT, d.remove(word));
         }
         due("1 none in use", "0", d.search(0, 0, false));
@@ -67,7 +57,7 @@ public final class PromiseTest {
         due("1 place", "-1", d.place());
         due("1 refused", "0", d.refused());
         due("1 listed", INDEX, d.listed(0));
-        Driver other = table(1);
+        Driver other = Driver.table(1);
         other.tell("list a");
         due("1 two objects share nothing", INDEX, d.listed(0));
         due("1 nor fields", ARGUMENT, d.get(0, 'a'));
@@ -120,7 +110,7 @@ public final class PromiseTest {
     }
 
     private static void insert() {
-        Driver d = table(0);
+        Driver d = Driver.table(0);
         for (int word = 0; word < 32; word++) {
             due("3 word", String.valueOf(word), d.insert());
         }
@@ -139,7 +129,7 @@ public final class PromiseTest {
     }
 
     private static void remove() {
-        Driver d = table(3);
+        Driver d = Driver.table(3);
         d.put(1, 'b', -1);
         d.search(0, 0, false);
         d.multi(WORK, -1);
@@ -157,7 +147,7 @@ public final class PromiseTest {
     }
 
     private static void put() {
-        Driver d = table(2);
+        Driver d = Driver.table(2);
         due("5 greatest unsigned", OK, d.put(0, 'a', 15));
         due("5 too great", STATE, d.put(0, 'a', 16));
         due("5 below nothing", STATE, d.put(0, 'a', -1));
@@ -205,7 +195,7 @@ public final class PromiseTest {
     }
 
     private static void get() {
-        Driver d = table(2);
+        Driver d = Driver.table(2);
         due("6 new", "0", d.get(1, 'b'));
         for (int v = -16; v < 16; v++) {
             d.put(1, 'b', v);
@@ -228,7 +218,7 @@ public final class PromiseTest {
     }
 
     private static void bit() {
-        Driver d = table(2);
+        Driver d = Driver.table(2);
         d.put(1, 'b', 5);
         due("7 bit 4", "true", d.bit(1, 4));
         due("7 bit 5", "false", d.bit(1, 5));
@@ -247,7 +237,7 @@ public final class PromiseTest {
     }
 
     private static void search() {
-        Driver d = table(4);
+        Driver d = Driver.table(4);
         for (int word = 0; word < 4; word++) {
             d.put(word, 'a', word + 4);
         }
@@ -273,7 +263,7 @@ public final class PromiseTest {
     }
 
     private static void multi() {
-        Driver d = table(3);
+        Driver d = Driver.table(3);
         d.put(1, 'c', -1);
         d.search(0, 0, false);
         d.first();
@@ -295,7 +285,7 @@ public final class PromiseTest {
     }
 
     private static void responds() {
-        Driver d = table(3);
+        Driver d = Driver.table(3);
         due("10 at first", "false", d.responds(0));
         d.search(0, 0, false);
         due("10 in use", "true", d.responds(2));
@@ -311,7 +301,7 @@ public final class PromiseTest {
     }
 
     private static void first() {
-        Driver d = table(32);
+        Driver d = Driver.table(32);
         due("11 none", "-1", d.first());
         d.search(0, 0, false);
         for (int word = 0; word < 32; word++) {
@@ -348,7 +338,7 @@ public final class PromiseTest {
         due("12 a hundred", "100", d.wipe());
         due("12 room again", "true", d.write(Driver.pack("abcdefgh")));
         due("12 a call in two", "8", d.wipe());
-        Driver e = table(1);
+        Driver e = Driver.table(1);
         e.text("co");
         e.text("unt");
         due("12 a token over two calls", "1", e.run());
@@ -364,14 +354,18 @@ public final class PromiseTest {
         due("13 nothing left of it", "0", d.run());
     }
 
-    private static void runConditions() {
-        Driver d = table(4);
+    private static Driver fourRows() {
+        Driver d = Driver.table(4);
         int[][] rows = {{3, -4, 0}, {3, 3, 9}, {0, -16, -9}, {15, 15, 511}};
         for (int word = 0; word < 4; word++) {
             d.put(word, 'a', rows[word][0]);
             d.put(word, 'b', rows[word][1]);
             d.put(word, 'c', rows[word][2]);
         }
+        return d;
+    }
+
+    private static void runConditions() {
         String[][] cases = {
             {"a = 3", "0 1 "}, {"a < 3", "2 "}, {"a > 3", "3 "}, {"a = b", "1 3 "}, {"b < a", "0 2 "},
             {"3 = a", "0 1 "}, {"3 < a", "3 "}, {"1 < 2", "0 1 2 3 "}, {"2 < 1", ""}, {"2 < 2", ""},
@@ -389,9 +383,11 @@ public final class PromiseTest {
         };
         for (String[] c : cases) {
             int many = c[1].isEmpty() ? 0 : c[1].split(" ").length;
+            Driver d = fourRows();
             due("14 where " + c[0], String.valueOf(many), d.tell("where " + c[0] + " count"));
             due("14 takes " + c[0], c[1], d.responders());
         }
+        Driver d = fourRows();
         d.remove(0);
         due("14 only words in use", "2", d.tell("where 1 = 1 & !a = 3 count"));
         due("14 those", "2 3 ", d.responders());
@@ -399,7 +395,7 @@ public final class PromiseTest {
     }
 
     private static void runAnswers() {
-        Driver d = table(5);
+        Driver d = Driver.table(5);
         int[] values = {5, -16, 15, 5, -3};
         for (int word = 0; word < 5; word++) {
             d.put(word, 'b', values[word]);
@@ -438,7 +434,7 @@ public final class PromiseTest {
     }
 
     private static void runSet() {
-        Driver d = table(3);
+        Driver d = Driver.table(3);
         d.put(0, 'a', 3);
         d.put(1, 'a', 9);
         due("14 set number", "3", d.tell("set b = 7"));
@@ -481,7 +477,7 @@ public final class PromiseTest {
 
     private static void runAfter() {
         for (String action : new String[] {"count", "list a", "max a", "min a", "sum a", "set a = a * 4"}) {
-            Driver d = table(4);
+            Driver d = Driver.table(4);
             for (int word = 0; word < 4; word++) {
                 d.put(word, 'a', word + 1);
             }
@@ -498,30 +494,30 @@ public final class PromiseTest {
     }
 
     private static void runThrows() {
-        Driver d = table(3);
-        d.put(1, 'a', 9);
-        d.tell("where a = 9 list b");
-        d.tell("set a = a + 7");
-        d.search(0, 0, false);
-        d.first();
-        d.multi(WORK, -1);
-        String before = d.state();
         for (String text : new String[] {"where a > 99 max b", "where a > 99 min b", "set a = 1, b = 2,",
                 "where a = 0 | a = 9 set a = 1 b", "list a a", "where 1 = 1 list", "", "x"}) {
+            Driver d = Driver.table(3);
+            d.search(0, 0, false);
+            d.first();
             String due = text.startsWith("where a > 99") ? ELEMENT : ARGUMENT;
             due("14 " + text, due, d.tell(text));
-            due("14 changes nothing: " + text, before, d.state());
+            due("14 who responds stays: " + text, "1 2 ", d.responders());
             due("14 again: " + text, due, d.run());
             due("14 the text stays: " + text, String.valueOf(text.length()), d.wipe());
         }
+        Driver d = Driver.table(3);
         d.tell("coun");
         d.text("t");
         due("14 a text that stayed, ended", "3", d.run());
         due("14 empty then", ARGUMENT, d.run());
-        Driver none = table(0);
+        Driver none = Driver.table(0);
         due("14 max of an empty table", ELEMENT, none.tell("max a"));
         due("14 count of an empty table", "0", none.tell("count"));
         due("14 no statement goes first", ARGUMENT, none.tell("max a ,"));
+    }
+
+    private static void place(int want, String text) {
+        place(Driver.table(2), want, text);
     }
 
     private static void place(Driver d, int want, String text) {
@@ -530,130 +526,127 @@ public final class PromiseTest {
     }
 
     private static void placeOfStarts() {
-        Driver d = table(2);
-        place(d, 0, "");
-        place(d, 3, "   ");
+        place(0, "");
+        place(3, "   ");
         for (String wrong : new String[] {"a", "wher", "wherea=1 count", "counts", "Count", "1", "(", "-", "=", "~", "1234"}) {
-            place(d, 0, wrong);
-            place(d, 2, "  " + wrong + " ");
+            place(0, wrong);
+            place(2, "  " + wrong + " ");
         }
-        place(d, 5, "where");
-        place(d, 7, "where  ");
-        place(d, 6, "where count");
-        place(d, 6, "where where a=1 count");
-        place(d, 12, "where a = 1 where a = 2 count");
-        place(d, 6, "count count");
-        place(d, 6, "count ,");
-        place(d, 6, "count #");
-        place(d, 6, "count 1234");
-        place(d, 6, "count where a = 1");
-        place(d, 5, "count1");
+        place(5, "where");
+        place(7, "where  ");
+        place(6, "where count");
+        place(6, "where where a=1 count");
+        place(12, "where a = 1 where a = 2 count");
+        place(6, "count count");
+        place(6, "count ,");
+        place(6, "count #");
+        place(6, "count 1234");
+        place(6, "count where a = 1");
+        place(5, "count1");
     }
 
     private static void placeOfConditions() {
-        Driver d = table(2);
-        place(d, 7, "where a");
-        place(d, 8, "where a count");
-        place(d, 8, "where a + 1 = 2 count");
-        place(d, 8, "where a ! = 1 count");
-        place(d, 9, "where a <= 1 count");
-        place(d, 10, "where a = count");
-        place(d, 10, "where a = z count");
-        place(d, 10, "where a = bc count");
-        place(d, 6, "where d = a count");
-        place(d, 11, "where a = 1");
-        place(d, 12, "where a = 1 = 1 count");
-        place(d, 12, "where a = 1 ) count");
-        place(d, 12, "where a = 1 + 1 count");
-        place(d, 12, "where a = 1 b = 2 count");
-        place(d, 12, "where a = 1 ! b = 2 count");
-        place(d, 14, "where a = 1 & count");
-        place(d, 14, "where a = 1 | | b = 1 count");
-        place(d, 14, "where a = 1 & & b = 1 count");
-        place(d, 13, "where (a = 1 count");
-        place(d, 6, "where ) count");
-        place(d, 7, "where () count");
-        place(d, 8, "where (a) count");
-        place(d, 8, "where ! count");
-        place(d, 7, "where -a = 1 count");
-        place(d, 12, "where a = - b count");
-        place(d, 11, "where a = -- 1 count");
-        place(d, 11, "where a = -1234 count");
-        place(d, 10, "where a = 0001 count");
-        place(d, 10, "where a = 123456 count");
-        place(d, 6, "where 1000 = a count");
-        place(d, 10, "where a = A count");
-        place(d, 8, "where a / 1 count");
-        place(d, 14, "where (((((((((a=1))))))))) count");
-        place(d, 14, "where !!!!!!!!!a=1 count");
-        place(d, 14, "where !(!(!(!((a=1))))) count");
-        place(d, 23, "where ((((((((a=1 & b=2!");
-        place(d, 25, "where ((((((((a=1))))))))) count");
-        place(d, 17, "where !!!!!!!!a=1))))");
-        place(d, 22, "where !!!!a=1|((((((((((a=1");
-        place(d, 19, "where (!a=1&!(((((((a=1");
+        place(7, "where a");
+        place(8, "where a count");
+        place(8, "where a + 1 = 2 count");
+        place(8, "where a ! = 1 count");
+        place(9, "where a <= 1 count");
+        place(10, "where a = count");
+        place(10, "where a = z count");
+        place(10, "where a = bc count");
+        place(6, "where d = a count");
+        place(11, "where a = 1");
+        place(12, "where a = 1 = 1 count");
+        place(12, "where a = 1 ) count");
+        place(12, "where a = 1 + 1 count");
+        place(12, "where a = 1 b = 2 count");
+        place(12, "where a = 1 ! b = 2 count");
+        place(14, "where a = 1 & count");
+        place(14, "where a = 1 | | b = 1 count");
+        place(14, "where a = 1 & & b = 1 count");
+        place(13, "where (a = 1 count");
+        place(6, "where ) count");
+        place(7, "where () count");
+        place(8, "where (a) count");
+        place(8, "where ! count");
+        place(7, "where -a = 1 count");
+        place(12, "where a = - b count");
+        place(11, "where a = -- 1 count");
+        place(11, "where a = -1234 count");
+        place(10, "where a = 0001 count");
+        place(10, "where a = 123456 count");
+        place(6, "where 1000 = a count");
+        place(10, "where a = A count");
+        place(8, "where a / 1 count");
+        place(14, "where (((((((((a=1))))))))) count");
+        place(14, "where !!!!!!!!!a=1 count");
+        place(14, "where !(!(!(!((a=1))))) count");
+        place(23, "where ((((((((a=1 & b=2!");
+        place(25, "where ((((((((a=1))))))))) count");
+        place(17, "where !!!!!!!!a=1))))");
+        place(22, "where !!!!a=1|((((((((((a=1");
+        place(19, "where (!a=1&!(((((((a=1");
     }
 
     private static void placeOfActions() {
-        Driver d = table(2);
         for (String action : new String[] {"max", "min", "sum"}) {
-            place(d, 3, action);
-            place(d, 4, action + " z");
-            place(d, 4, action + " ab");
-            place(d, 4, action + " 1");
-            place(d, 4, action + " count");
-            place(d, 6, action + " a b");
-            place(d, 3, action + "1");
+            place(3, action);
+            place(4, action + " z");
+            place(4, action + " ab");
+            place(4, action + " 1");
+            place(4, action + " count");
+            place(6, action + " a b");
+            place(3, action + "1");
         }
-        place(d, 5, "list (");
-        place(d, 7, "list a , b");
-        place(d, 3, "set");
-        place(d, 4, "set z = 1");
-        place(d, 4, "set 1 = 1");
-        place(d, 5, "set a");
-        place(d, 6, "set a < 1");
-        place(d, 8, "set a = ");
-        place(d, 8, "set a = set");
-        place(d, 8, "set a = z");
-        place(d, 8, "set a = (1)");
-        place(d, 8, "set a = 1000");
-        place(d, 9, "set a = -a");
-        place(d, 9, "set a = -");
-        place(d, 10, "set a = 1 2");
-        place(d, 10, "set a = 1 b");
-        place(d, 10, "set a = 1 / 2");
-        place(d, 10, "set a = 1 & 2");
-        place(d, 11, "set a = 1 +");
-        place(d, 12, "set a = 1 + + 2");
-        place(d, 13, "set a = 1 + -b");
-        place(d, 14, "set a = 1 - - - 1");
-        place(d, 13, "set a = 1 -  1234");
-        place(d, 14, "set a = 1 + 2 + 3");
-        place(d, 14, "set a = 1 + 2 count");
-        place(d, 12, "set a = 1 , ");
-        place(d, 12, "set a = 1 , , b = 1");
-        place(d, 12, "set a = 1 , z = 1");
-        place(d, 13, "set a = 1 , b");
-        place(d, 18, "set a = 1 , b = 1 , c = 1");
-        place(d, 20, "set a = 1,b = 2 * 3 , c = 1");
+        place(5, "list (");
+        place(7, "list a , b");
+        place(3, "set");
+        place(4, "set z = 1");
+        place(4, "set 1 = 1");
+        place(5, "set a");
+        place(6, "set a < 1");
+        place(8, "set a = ");
+        place(8, "set a = set");
+        place(8, "set a = z");
+        place(8, "set a = (1)");
+        place(8, "set a = 1000");
+        place(9, "set a = -a");
+        place(9, "set a = -");
+        place(10, "set a = 1 2");
+        place(10, "set a = 1 b");
+        place(10, "set a = 1 / 2");
+        place(10, "set a = 1 & 2");
+        place(11, "set a = 1 +");
+        place(12, "set a = 1 + + 2");
+        place(13, "set a = 1 + -b");
+        place(14, "set a = 1 - - - 1");
+        place(13, "set a = 1 -  1234");
+        place(14, "set a = 1 + 2 + 3");
+        place(14, "set a = 1 + 2 count");
+        place(12, "set a = 1 , ");
+        place(12, "set a = 1 , , b = 1");
+        place(12, "set a = 1 , z = 1");
+        place(13, "set a = 1 , b");
+        place(18, "set a = 1 , b = 1 , c = 1");
+        place(20, "set a = 1,b = 2 * 3 , c = 1");
         StringBuilder full = new StringBuilder("count");
         while (full.length() < 99) {
             full.append(' ');
         }
-        place(d, 99, full + "?");
-        due("15 a hundred characters", "2", d.tell(full + " "));
+        place(99, full + "?");
+        due("15 a hundred characters", "2", Driver.table(2).tell(full + " "));
         StringBuilder ands = new StringBuilder("where a=0");
         while (ands.length() < 100) {
             ands.append(ands.length() < 96 ? "&1=1" : "&");
         }
-        place(d, 98, ands.toString());
+        place(98, ands.toString());
         Driver bare = new Driver();
         place(bare, 3, "max");
         place(bare, 4, "max a");
     }
 
     private static void placeOverTime() {
-        Driver d = table(1);
+        Driver d = Driver.table(1);
         d.text("set");
         due("15 no call yet", "-1", d.place());
         d.run();
@@ -676,7 +669,7 @@ public final class PromiseTest {
     }
 
     private static void refused() {
-        Driver d = table(4);
+        Driver d = Driver.table(4);
         for (int word = 0; word < 4; word++) {
             d.put(word, 'a', 12 + word);
         }
@@ -705,7 +698,7 @@ public final class PromiseTest {
     }
 
     private static void listed() {
-        Driver d = table(32);
+        Driver d = Driver.table(32);
         due("17 before", INDEX, d.listed(0));
         for (int word = 0; word < 32; word++) {
             d.put(word, 'b', word * 7 % 3 - 1);
