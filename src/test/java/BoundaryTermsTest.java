@@ -284,6 +284,10 @@ public final class BoundaryTermsTest {
         isNone(99, "count" + " ".repeat(94) + "x");
         isNone(96, " ".repeat(96) + "coun");
         isNone(100, " ".repeat(100));
+        for (String last : new String[] {"x", "a", "1", "(", "#"}) {
+            isNone(99, " ".repeat(99) + last);
+            isNone(98, " ".repeat(98) + last);
+        }
         isNone(95, " where 1=1" + "&1=1".repeat(21) + "&count");
         isNone(100, "where 1=1" + "&1=1".repeat(22) + " & ");
         Driver d = twoWords();
