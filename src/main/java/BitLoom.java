@@ -8,6 +8,7 @@ import java.util.NoSuchElementException;
  */
 public final class BitLoom {
     private static final int WORDS = 32;
+    private static final int ALL_WORDS = -1;
     private static final int BITS = 32;
     private static final int FIELD_BITS = 24;
     private static final int WORK_BITS = -1 << FIELD_BITS;
@@ -138,7 +139,7 @@ public final class BitLoom {
         int taken = statement.taken();
         int answer = carryOut(taken);
         words.respondOnly(taken);
-        words.overwrite(-1, WORK_BITS, 0);
+        words.overwrite(ALL_WORDS, WORK_BITS, 0);
         text.clear();
         return answer;
     }

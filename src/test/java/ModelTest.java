@@ -5,7 +5,8 @@ public final class ModelTest {
     private static final int RUNS = 4000;
 
     /** A step takes at most 23 calls and the last look at all at most 193, all together no more than an object has. */
-    private static final int CALLS_BEFORE_THE_LAST_STEP = 296;
+    private static final int CALLS_OF_A_STEP = 23;
+    private static final int CALLS_OF_A_LOOK = 193;
 
     private final Random random;
     private final Driver driver = new Driver();
@@ -32,10 +33,17 @@ public final class ModelTest {
         for (int i = random.nextInt(33); i > 0; i--) {
             Check.due("insert", Check.outcome(model::insert), driver.insert());
         }
-        while (driver.calls() < CALLS_BEFORE_THE_LAST_STEP) {
+        boolean looksAtAll = seed % 2 == 0;
+        int last = Driver.MOST_CALLS - CALLS_OF_A_STEP - (looksAtAll ? CALLS_OF_A_LOOK : 0);
+        while (driver.calls() <= last) {
             step("seed " + seed + " behind call " + driver.calls() + " ");
         }
-        compareAll("seed " + seed + " at the end ");
+        if (looksAtAll) {
+            compareAll("seed " + seed + " at the end ");
+        }
+        while (driver.calls() < Driver.MOST_CALLS) {
+            compareBit("seed " + seed + " behind call " + driver.calls() + " ");
+        }
     }
 
     private void step(String at) {
@@ -73,11 +81,16 @@ public final class ModelTest {
         compare(at);
     }
 
-    private void compare(String at) {
+    private void compareBit(String at) {
         int word = random.nextInt(32);
         int k = random.nextInt(3) == 0 ? 24 + random.nextInt(8) : random.nextInt(32);
-        int i = random.nextInt(model.list.size() + 2) - 1;
         Check.due(at + "bit " + k + " of " + word, String.valueOf((model.bits[word] >>> k & 1) == 1), driver.bit(word, k));
+    }
+
+    private void compare(String at) {
+        int word = random.nextInt(32);
+        int i = random.nextInt(model.list.size() + 2) - 1;
+        compareBit(at);
         Check.due(at + "responds " + word, String.valueOf(model.responders.contains(word)), driver.responds(word));
         Check.due(at + "place", String.valueOf(model.place), driver.place());
         Check.due(at + "refused", String.valueOf(model.refused), driver.refused());
